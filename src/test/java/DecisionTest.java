@@ -179,6 +179,14 @@ public final class DecisionTest {
         Checks.claim(x, 0, 0, 0, 50, "ship");
         x.vote(1, 30, 10);
         checks.due("the lesser vote itself", x.lot(1, 0, 10), 1);
+        x.nation(0, 3, 0);
+        x.umpire(0, true);
+        checks.due("lots() with the first", x.lots(), 4);
+        x.nation(0, 0, 0);
+        x.sides(1, 3);
+        Checks.claim(x, 5, 0, 0, 50, "ship");
+        x.vote(2, 0, 10);
+        checks.due("the first of all", x.lot(2, 0, 5), 0);
     }
 
     private static int award(String rules, int sum, int days) {

@@ -15,6 +15,7 @@ public final class FundTest {
         paidStaysPaid();
         heirs();
         heirsOfHeirs();
+        heirsOfTwo();
         heirsInARing();
         counts();
         checks.close("FundTest");
@@ -236,6 +237,24 @@ public final class FundTest {
         checks.due("51 to the first, who is dead", y.purse(1), 0);
         checks.due("a third of it", y.purse(3), 17);
         checks.due("two thirds, and 50, with one who is dead without heirs", y.purse(2), 84);
+    }
+
+    /** Two who are dead, the first with many heirs, the next with few: each by their own. */
+    private static void heirsOfTwo() {
+        TreatyClaims x = awarded("", 600, 600, 0, 0, 0);
+        x.fund(1200);
+        x.dead(0, 0);
+        x.dead(1, 0);
+        for (int q = 1; q < 5; q++) {
+            x.heir(0, q, q);
+        }
+        x.heir(1, 2, 1);
+        x.wave();
+        checks.due("60 of 600 through 1, and 600, and 120", x.purse(2), 60 + 600 + 120);
+        checks.due("180", x.purse(3), 180);
+        checks.due("240", x.purse(4), 240);
+        checks.due("0 and 1", x.purse(0) + x.purse(1), 0);
+        checks.due("coin", x.count(7), 0);
     }
 
     private static void heirsInARing() {

@@ -153,5 +153,9 @@ public final class PeopleTest {
         checks.due("lots() with nations 0, 2, 3", x.lots(), 1);
         x.umpire(2, false);
         checks.due("lots() with nations 0, 3", x.lots(), 0);
+        checks.due("sides 1 and 2", x.sides(1, 2), 1);
+        checks.due("lots() of 0, 3", x.lots(), 2);
+        checks.due("sides 3 and 1", x.sides(3, 1), 1);
+        checks.due("lots() of 0", x.lots(), 1);
     }
 }

@@ -170,6 +170,8 @@ public final class ProofTest {
         checks.due("an either", claimed(0, 0, "need ship 0;either ship a b;").lacks(0, 0, 0), 1);
         checks.due("an either and a must", claimed(0, 0, "need ship 0;either ship a b;must ship b;").lacks(0, 0, 0), 2);
         checks.due("two eithers", claimed(0, 0, "need ship 0;either ship a b;either ship b c;").lacks(0, 0, 0), 2);
+        checks.due("one for two eithers, ahead of a lesser set of two", claimed(0, 0,
+            "weigh a 1;weigh b 1;weigh d 1;need ship 0;either ship a d;either ship b d;").lacks(0, 0, 0), 4);
         checks.due("two eithers and points",
             claimed(0, 0, "need ship 9;either ship a b;either ship c b;weigh a 5;weigh c 4;").lacks(0, 0, 0), 5);
         TreatyClaims x = claimed(0, 0, "need ship 5;weigh a 2;weigh b 3;weigh c 5;");
@@ -250,6 +252,7 @@ public final class ProofTest {
         checks.due("state", x.about(0, 7), 3);
         checks.due("count(23)", x.count(23), 1);
         checks.due("fails", x.fails(0, 0, 0), 32);
+        checks.due("fails by another version", x.fails(0, 1, 0), 40);
         checks.due("withdraw(0) again", x.withdraw(0), TreatyClaims.STATE);
         x.vote(1, 1, 0);
         checks.due("withdraw of a split one", x.withdraw(1), TreatyClaims.STATE);

@@ -41,11 +41,23 @@ public final class RulesTest {
         }
         checks.due("rule(-1, 0)", x.rule(-1, 0), NO_SUCH);
         checks.due("rule(4, 0)", x.rule(4, 0), NO_SUCH);
-        Checks.rules(x, 1, "bar 3;weigh a 1;must b c;either b c d;order insurer;need b 4;");
-        checks.due("no clause", Checks.rules(x, 1, " \n "), 0);
-        isUntold("behind an empty text", x, 1);
-        checks.due("kinds are gone", Checks.kind(x, 1, "a"), NONE);
-        checks.due("needs are gone", Checks.need(x, 1, "b"), 10);
+        String all = "bar 7;days 3 9;chain always;rate 12 filing;split umpire;cap 55;test 4;late 30;part 25;"
+            + "order insurer cargo;weigh a 8;weigh b 9;need b 4;must x c;either x b d;";
+        for (int i = 0; i < 3; i++) {
+            checks.due("all clauses", Checks.rules(x, 1, all), 15);
+        }
+        for (int i = 0; i < 3; i++) {
+            checks.due("no clause", Checks.rules(x, 1, " \n "), 0);
+            isUntold("behind an empty text", x, 1);
+            checks.due("kinds are gone", Checks.kind(x, 1, "a"), NONE);
+            checks.due("needs are gone", Checks.need(x, 1, "b"), 10);
+        }
+        for (int i = 0; i < 3; i++) {
+            Checks.rules(x, 1, "must x c;weigh d 1;must x e;");
+            checks.due("an untold weight", x.rule(1, 30), 0);
+            checks.due("a told weight", x.rule(1, 31), 1);
+            checks.due("another untold weight", x.rule(1, 32), 0);
+        }
     }
 
     private static void everyClause() {
