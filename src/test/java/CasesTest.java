@@ -160,6 +160,15 @@ public final class CasesTest {
         checks.due("in its measure", y.spread(1), 2);
         checks.due("cut", y.about(2, 8), 92 * 45 / 91);
         checks.due("nothing where nothing is due", y.about(3, 8), 0);
+        TreatyClaims one = Checks.withPersons(1);
+        Checks.rules(one, 0, "need ship 0;");
+        one.thing(0, 0, 1);
+        one.thing(0, 0, 500);
+        Checks.claim(one, 0, 0, 0, 5, "ship");
+        Checks.claim(one, 0, 1, 0, 400, "ship");
+        one.vote(0, 1, 1);
+        checks.due("the due of that one is 1", one.spread(0), 1);
+        checks.due("all that is due", one.about(1, 8), 400);
         TreatyClaims z = marked("", 0, 0);
         z.vote(0, 50, 50);
         Checks.claim(z, 1, 0, 0, 999999, "house");

@@ -95,6 +95,17 @@ public final class FundTest {
         checks.due("no award at all", y.wave(), 0);
         y.withdraw(0);
         checks.due("nothing at all", y.wave(), 0);
+        TreatyClaims z = Checks.withPersons(1);
+        Checks.rules(z, 0, "need ship 0;");
+        z.thing(0, 0, 1000);
+        Checks.claim(z, 0, 0, 0, 300, "ship");
+        Checks.claim(z, 0, 0, 0, 100, "ship");
+        z.vote(1, 100, 100);
+        z.fund(100);
+        checks.due("beside the first, which is open", z.wave(), 25);
+        TreatyClaims one = awarded("", 1);
+        one.fund(5);
+        checks.due("one", one.wave(), 1);
     }
 
     /** Coin that was paid on a claim whose award is none now is wanting later. */
@@ -255,6 +266,19 @@ public final class FundTest {
         checks.due("240", x.purse(4), 240);
         checks.due("0 and 1", x.purse(0) + x.purse(1), 0);
         checks.due("coin", x.count(7), 0);
+        TreatyClaims y = awarded("", 600, 5, 0, 0, 0);
+        y.fund(605);
+        y.dead(0, 0);
+        y.dead(1, 0);
+        for (int q = 2; q < 5; q++) {
+            y.heir(0, q, 1);
+        }
+        y.heir(1, 2, 1);
+        y.heir(1, 3, 1);
+        y.wave();
+        checks.due("200 and 3", y.purse(2), 203);
+        checks.due("200 and 2", y.purse(3), 202);
+        checks.due("200", y.purse(4), 200);
     }
 
     private static void heirsInARing() {

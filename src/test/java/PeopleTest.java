@@ -147,6 +147,8 @@ public final class PeopleTest {
         checks.due("sides alike", x.sides(2, 2), RANGE);
         checks.due("sides 4", x.sides(4, 0), RANGE);
         checks.due("sides -1", x.sides(0, -1), RANGE);
+        checks.due("sides -1, the first", x.sides(-1, 0), RANGE);
+        checks.due("sides 4, the second", x.sides(0, 4), RANGE);
         checks.due("lots() as before", x.lots(), 2);
         checks.due("sides", x.sides(0, 3), 1);
         x.umpire(1, false);
@@ -157,5 +159,7 @@ public final class PeopleTest {
         checks.due("lots() of 0, 3", x.lots(), 2);
         checks.due("sides 3 and 1", x.sides(3, 1), 1);
         checks.due("lots() of 0", x.lots(), 1);
+        checks.due("sides 3 and 0", x.sides(3, 0), 1);
+        checks.due("lots() of none", x.lots(), 0);
     }
 }

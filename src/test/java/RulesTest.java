@@ -301,6 +301,8 @@ public final class RulesTest {
         checks.due("count(9)", x.count(9), 3);
         checks.due("force(3) again", x.force(3), 3);
         checks.due("force(1)", x.force(1), 3);
+        checks.due("force(0)", x.force(0), 1);
+        checks.due("count(9) then", x.count(9), 0);
     }
 
     private static void words() {

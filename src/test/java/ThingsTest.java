@@ -79,6 +79,13 @@ public final class ThingsTest {
         worth(x, 0, 6, 6, 6);
         worth(x, 1, 6, 6, 6);
         checks.due("a told one keeps its own", x.lost(2, 2), 40);
+        TreatyClaims y = new TreatyClaims();
+        y.thing(0, 1, 50);
+        y.thing(0, 2, 30);
+        y.thing(0, 0, NONE);
+        worth(y, 2, 30, 30, 50);
+        y.thing(0, 1, NONE);
+        worth(y, 3, 50, 50, 50);
     }
 
     private static void claims() {
