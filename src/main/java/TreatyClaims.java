@@ -555,7 +555,6 @@ public final class TreatyClaims {
 
         void clear() {
             length = 0;
-            next = 0;
         }
 
         void rewind() {

@@ -12,7 +12,9 @@ public final class RulesTest {
         bounds();
         orders();
         kinds();
+        nearWords();
         syntaxFaults();
+        cutTexts();
         rangeFaults();
         twiceFaults();
         roomFaults();
@@ -165,6 +167,28 @@ public final class RulesTest {
         checks.due("kind of owner", Checks.kind(x, 3, "owner"), 2);
     }
 
+    /** Words that are near one another are other words all the same. */
+    private static void nearWords() {
+        String[] words = {"a", "aa", "ab", "ba", "bb", "b", "abc", "acb", "bac", "z", "za", "az", "zz", "y", "aaaaaaaaaaaa",
+            "baaaaaaaaaaa"};
+        TreatyClaims x = new TreatyClaims();
+        StringBuilder text = new StringBuilder();
+        for (String word : words) {
+            text.append("weigh ").append(word).append(" 1;");
+        }
+        checks.due("sixteen near words", Checks.rules(x, 0, text.toString()), 16);
+        for (int i = 0; i < 16; i++) {
+            checks.due("kind of " + words[i], Checks.kind(x, 0, words[i]), i);
+        }
+        for (char one = 'a'; one <= 'z'; one++) {
+            for (char other = 'a'; other <= 'z'; other++) {
+                String word = "" + one + other;
+                int kind = java.util.Arrays.asList(words).indexOf(word);
+                checks.due("kind of " + word, Checks.kind(x, 0, word), kind);
+            }
+        }
+    }
+
     private static void syntaxFaults() {
         checks.fault(";", 1, 0);
         checks.fault("bar", 1, 3);
@@ -203,6 +227,14 @@ public final class RulesTest {
         checks.fault("must a b c;", 1, 9);
         checks.fault("either a b;", 1, 10);
         checks.fault("either a 5;", 1, 9);
+        checks.fault("either ;", 1, 7);
+        checks.fault("either 5;", 1, 7);
+        checks.fault("must ;", 1, 5);
+        checks.fault("must 5;", 1, 5);
+        checks.fault("must a;", 1, 6);
+        checks.fault("weigh ;", 1, 6);
+        checks.fault("need ;", 1, 5);
+        checks.fault("need 5;", 1, 5);
         TreatyClaims x = new TreatyClaims();
         checks.due("no blanks but where they must be", Checks.rules(x, 0, "bar5;days3 9;\nrate07loss;"), 3);
         checks.due("bar", x.rule(0, 0), 5);
@@ -212,6 +244,23 @@ public final class RulesTest {
         checks.due("twelve letters", Checks.rules(x, 0, "weigh abcdefghijkl 5;"), 1);
         checks.due("kind of them", Checks.kind(x, 0, "abcdefghijkl"), 0);
         checks.due("eleven of them", Checks.kind(x, 0, "abcdefghijk"), NONE);
+    }
+
+    /** What stood behind the end is no part of the text. */
+    private static void cutTexts() {
+        String text = "bar 123;weigh abc 12;";
+        for (int end = 0; end <= text.length(); end++) {
+            TreatyClaims x = new TreatyClaims();
+            Checks.write(x, text);
+            x.end(end);
+            int clauses = end == 0 ? 0 : end == 8 ? 1 : end == 21 ? 2 : NONE;
+            checks.due("the first " + end + " of '" + text + "'", x.rules(0), clauses);
+            int place = clauses != NONE ? NONE : end < 3 ? 0 : end > 8 && end < 13 ? 8 : end;
+            checks.due("fault(1) of the first " + end, x.fault(1), place);
+            Checks.write(x, text);
+            x.end(end);
+            checks.due("need of the first " + end, x.need(0), end > 0 && end < 5 ? 10 : NONE);
+        }
     }
 
     private static void rangeFaults() {
