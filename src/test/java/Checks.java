@@ -32,6 +32,14 @@ final class Checks {
         return x.end(end);
     }
 
+    /** Writes a text on an empty tape, in as few calls as can be. */
+    static void put(TreatyClaims x, String text) {
+        for (int at = 0; at < text.length(); at += 20) {
+            x.feed(four(text, at), four(text, at + 4), four(text, at + 8), four(text, at + 12), four(text, at + 16));
+        }
+        x.end(text.length());
+    }
+
     private static int four(String text, int at) {
         int four = 0;
         for (int i = at; i < at + 4; i++) {
@@ -73,6 +81,13 @@ final class Checks {
     static int paper(TreatyClaims x, int c, int issuer, int day, String word) {
         write(x, word);
         return x.paper(c, issuer, day);
+    }
+
+    /** Lets days pass until it is one. */
+    static void passTo(TreatyClaims x, int day) {
+        for (int left = day - x.count(0); left > 0; left -= 500) {
+            x.pass(Math.min(left, 500));
+        }
     }
 
     static TreatyClaims withPersons(int many) {
