@@ -1430,6 +1430,7 @@ public final class TreatyClaims {
     /** What was lost, and what it was worth: as told, or as the things most like it. */
     private static final class Things {
         private static final int MOST = 30;
+        private static final int MARKS = 8;
 
         private int things;
         private final int[] days = new int[MOST];
@@ -1514,7 +1515,7 @@ public final class TreatyClaims {
         }
 
         private int fewestUnlike(int bits) {
-            int fewest = Integer.MAX_VALUE;
+            int fewest = MARKS;
             for (int i = 0; i < things; i++) {
                 if (worths[i] != NONE) {
                     fewest = Math.min(fewest, Integer.bitCount(marks[i] ^ bits));

@@ -21,14 +21,18 @@ public final class ClaimsEdgeTest {
         paperBounds();
         forgedOnItsDay();
         forgedAsKnown();
+        forgedByTheFirst();
         filedBehindBar();
         lostWithinDays();
         nationOnTheDays();
         nationAlways();
+        nationAlwaysAsKnown();
+        nationOfEachNumber();
         pointsBelowNeed();
         pointsOfUnlikeKinds();
         pointsOfWhatIsKnown();
         mustAndEither();
+        mustAndEitherToldAnew();
         withdrawnFails();
         allBits();
         lacksNothing();
@@ -37,6 +41,7 @@ public final class ClaimsEdgeTest {
         lacksAllOrNone();
         weakestIsTheLeast();
         weakestIsNone();
+        weakestAsKnown();
         besideCounts();
         aboutNumbers();
         checks.close("ClaimsEdgeTest");
@@ -319,6 +324,17 @@ public final class ClaimsEdgeTest {
         }
     }
 
+    /** "its issuer", who may be person 0, and isn't there with NONE. */
+    private static void forgedByTheFirst() {
+        TreatyClaims x = filed(0, 0, "weigh deed 3;weigh oath 5;");
+        Checks.paper(x, 0, 0, 7, "deed");
+        Checks.paper(x, 0, NONE, 7, "oath");
+        x.dead(0, 7);
+        checks.due("by person 0", x.forged(0, 0), 1);
+        checks.due("by none", x.forged(1, 0), 0);
+        checks.due("POINTS", x.points(0, 0, 0), 5);
+    }
+
     /** "1 it was FILED behind bar". */
     private static void filedBehindBar() {
         for (int day : new int[] {0, 1, 1998, 1999}) {
@@ -391,6 +407,40 @@ public final class ClaimsEdgeTest {
         checks.due("as of NATION 0", y.fails(1, 0, 9), 4);
     }
 
+    /** "(for a day, as KNOWN)": what is told a day later, of the first day and of one between. */
+    private static void nationAlwaysAsKnown() {
+        for (int from = 5; from <= 9; from++) {
+            TreatyClaims x = filed(5, 9, "need ship 0;chain always;");
+            for (int day = 5; day <= 9; day++) {
+                x.nation(0, 0, day);
+            }
+            x.pass(1);
+            x.nation(0, 3, from);
+            checks.due("another from " + from + " on, as known ahead", x.fails(0, 0, 9), 0);
+            checks.due("another from " + from + " on, as known then", x.fails(0, 0, 10), 4);
+        }
+    }
+
+    /** "isn't the one it is as of": neither a lesser nor a greater one, by any chain. */
+    private static void nationOfEachNumber() {
+        String[] chains = {"loss", "filing", "both", "always"};
+        for (int of = 0; of < 4; of++) {
+            TreatyClaims x = Checks.withPersons(1);
+            x.nation(0, of, 0);
+            x.thing(0, 0, 10);
+            for (int as = 0; as < 4; as++) {
+                Checks.write(x, "ship");
+                x.claim(0, as, 0, 0, 0, 1);
+            }
+            for (int v = 0; v < 4; v++) {
+                Checks.rules(x, v, "need ship 0;chain " + chains[v] + ";");
+                for (int as = 0; as < 4; as++) {
+                    checks.due("of " + of + ", as of " + as + ", chain " + chains[v], x.fails(as, v, 0), as == of ? 0 : 4);
+                }
+            }
+        }
+    }
+
     /** "8 its POINTS are below need of its W": need, one less, one more; 10 where it isn't told. */
     private static void pointsBelowNeed() {
         checks.due("need 5", withPapers("weigh a 5;need ship 5;", "a").fails(0, 0, 0), 0);
@@ -460,6 +510,19 @@ public final class ClaimsEdgeTest {
         }
         checks.due("nine of ten", withPapers(ten.toString(), "abcdefghi").fails(0, 0, 0), 16);
         checks.due("ten of ten", withPapers(ten.toString(), "abcdefghij").fails(0, 0, 0), 0);
+    }
+
+    /** A text has no must and no either but its own, though one with more stood in its place ahead of it. */
+    private static void mustAndEitherToldAnew() {
+        TreatyClaims x = withPapers("need ship 0;must ship a;must ship b;either ship c d;", "a");
+        checks.due("more is asked", x.fails(0, 0, 0), 16);
+        for (int round = 0; round < 3; round++) {
+            Checks.rules(x, 0, "need ship 0;must ship a;");
+            checks.due("a alone, told " + round, x.fails(0, 0, 0), 0);
+            checks.due("nothing lacks, told " + round, x.lacks(0, 0, 0), 0);
+            Checks.rules(x, 0, "need ship 0;");
+            checks.due("nothing is asked, told " + round, x.fails(0, 0, 0), 0);
+        }
     }
 
     /** "32 it was WITHDRAWN". */
@@ -568,6 +631,15 @@ public final class ClaimsEdgeTest {
         checks.due("it isn't PROVEN: WITHDRAWN", x.weakest(0, 0, 0), NONE);
     }
 
+    /** WEAKEST "as KNOWN on a day": what comes a day later, in the stead of another, spares none the day ahead. */
+    private static void weakestAsKnown() {
+        TreatyClaims x = withPapers("need ship 5;weigh a 5;weigh b 5;", "b");
+        x.pass(1);
+        Checks.paper(x, 0, NONE, 0, "a");
+        checks.due("as known on 0", x.weakest(0, 0, 0), 1);
+        checks.due("as known on 1", x.weakest(0, 0, 1), NONE);
+    }
+
     /** Promise 31: "PROVEN by VERSION v and not by w, as KNOWN now". */
     private static void besideCounts() {
         TreatyClaims x = withPapers("need ship 5;weigh a 5;", "");
@@ -580,6 +652,7 @@ public final class ClaimsEdgeTest {
         x.pass(1);
         Checks.paper(x, 0, 1, 9, "a");
         checks.due("with a PAPER that is KNOWN now", x.beside(3, 0), 0);
+        checks.due("PROVEN by it, and not by another VERSION", x.beside(0, 2), 1);
         x.dead(1, 9);
         checks.due("which is FORGED, as KNOWN now", x.beside(3, 0), 1);
         for (int v : new int[] {Integer.MIN_VALUE, -1, 4, Integer.MAX_VALUE}) {

@@ -23,6 +23,7 @@ public final class DecisionsEdgeTest {
         voteOnOpenOnes();
         lotsOfWhom();
         lotsToday();
+        lotToday();
         lotBounds();
         lotOfSplitOnes();
         interestIsCut();
@@ -90,6 +91,14 @@ public final class DecisionsEdgeTest {
         TreatyClaims x = claimed(5, "", 0, 3, 3, 3);
         x.withdraw(0);
         dues("the lowest that is PROVEN", x, 0, 3, 2);
+        TreatyClaims y = claimed(5, "", 3, 3);
+        Checks.claim(y, 0, 0, 0, 3, "ship");
+        Checks.claim(y, 0, 0, 0, 3, "ship");
+        dues("the lowest of that ROLE, not of a later one", y, 0, 3, 2);
+        TreatyClaims z = claimed(8, "order insurer owner;", 3, 3);
+        Checks.claim(z, 0, 0, 0, 3, "ship");
+        Checks.claim(z, 0, 0, 0, 3, "ship");
+        dues("the lowest of that ROLE, not of an earlier one", z, 3, 3, 2);
     }
 
     /** "ROLE by ROLE by order": what is left of one is all that the next ones have. */
@@ -247,6 +256,22 @@ public final class DecisionsEdgeTest {
         checks.due("the second alone tomorrow", x.lots(), 1);
         x.sides(2, 3);
         checks.due("of other SIDES", x.lots(), 0);
+    }
+
+    /** Who is drawn "(today, as KNOWN today)": a death and a NATION that begin today, and such that begin tomorrow. */
+    private static void lotToday() {
+        for (int from = 4; from <= 6; from++) {
+            for (int told = 0; told < 2; told++) {
+                TreatyClaims x = splitOne(1, 2);
+                x.nation(2, 3, 0);
+                x.umpire(2, true);
+                x.pass(5);
+                int telling = told == 0 ? x.dead(1, from) : x.nation(1, 0, from);
+                checks.holds("it is told", telling > 0);
+                checks.due("no more for a LOT from " + from + " on", x.lots(), from <= 5 ? 1 : 2);
+                checks.due("who is drawn then", x.lot(0, 0, 1), from <= 5 ? 2 : 1);
+            }
+        }
     }
 
     /** Promise 38: "RANGE: .. number, sum (from the lesser VOTE to the greater)". */
@@ -447,6 +472,11 @@ public final class DecisionsEdgeTest {
         tests("of OPEN ones alone", x, 2, 3, 0, 3);
         x.vote(3, 0, 0);
         tests("of OPEN ones alone", x, 3, 3, 0, 2, 4);
+        TreatyClaims y = marked(0, 1, 2, 2, 4);
+        y.withdraw(2);
+        tests("one whose only like is a later one that isn't OPEN", y, 1, 1, 0);
+        y.vote(0, 0, 0);
+        tests("the first isn't OPEN", y, 3, 2, 1, 3);
     }
 
     /** Promise 41: "The i-th CLAIM of the latest tests(); NONE." */
@@ -590,6 +620,14 @@ public final class DecisionsEdgeTest {
         x.vote(0, 0, 0);
         x.withdraw(1);
         checks.due("its DUE is unlike again", x.again(0), 1);
+        TreatyClaims y = claimed(100, "late 5;need boat 1;must boat a;", 0);
+        Checks.claim(y, 0, 0, 0, 60, "boat");
+        y.vote(0, 0, 0);
+        Checks.rules(y, 0, "late 5;need boat 1;");
+        checks.due("one fails no more, 0 is DUE as before", y.again(0), 1);
+        y.vote(0, 0, 0);
+        Checks.rules(y, 0, "late 5;need boat 0;must boat a;");
+        checks.due("another one fails instead", y.again(0), 1);
     }
 
     /** "is OPEN again .. its AWARD is none then"; promise 43: "STATE: it isn't DECIDED". */

@@ -264,5 +264,19 @@ public final class EmptyTest {
             checks.due("test(0)", x.test(0), NONE);
         }
         checks.due("spread with none OPEN", x.spread(1), 0);
+        TreatyClaims y = Checks.withPersons(1);
+        y.thing(0, 0, 5);
+        for (String word : new String[] {"ship", "boat", "bond"}) {
+            Checks.claim(y, 0, 0, 0, 5, word);
+        }
+        checks.due("tests(3) of three", y.tests(3), 3);
+        checks.due("test(2)", y.test(2), 2);
+        for (int c = 0; c < 3; c++) {
+            y.withdraw(c);
+        }
+        checks.due("tests(3) of none", y.tests(3), 0);
+        for (int i = 0; i < 3; i++) {
+            checks.due("nothing is left of the row: test(" + i + ")", y.test(i), NONE);
+        }
     }
 }

@@ -22,6 +22,8 @@ public final class PayEdgeTest {
         lastOfGreatOnes();
         paidStaysPaid();
         heirsOfTheDeadToday();
+        heirsAtLastToday();
+        heirsOfHeirsToday();
         heirsAsKnownToday();
         heirsByTheirParts();
         heirsOfAPenny();
@@ -227,6 +229,14 @@ public final class PayEdgeTest {
         x.fund(50);
         checks.due("50 for 50 and 200", x.last(), 50);
         paid("10 and 40", x, 60, 90, 0);
+        TreatyClaims y = awarded("", 2, 5);
+        y.fund(5);
+        checks.due("5 for 2 and 5", y.last(), 5);
+        paid("1.43 and 3.57", y, 1, 4);
+        TreatyClaims z = awarded("", 1, 2, 5);
+        z.fund(6);
+        checks.due("6 for 1, 2 and 5", z.last(), 6);
+        paid("0.75, 1.5 and 3.75", z, 1, 1, 4);
     }
 
     /** "the whole part; of what is left over one each to those with the greatest rest". */
@@ -308,6 +318,38 @@ public final class PayEdgeTest {
             checks.due("DEAD from " + from + " on: the purse", x.purse(0), from > 5 ? 10 : 0);
             checks.due("DEAD from " + from + " on: the heir's", x.purse(1), from > 5 ? 0 : 10);
             checks.due("paid on the CLAIM", x.about(0, 10), 10);
+        }
+    }
+
+    /** The LAST one "goes .. if DEAD (today, ..) to the HEIRS" too, enough for all or not. */
+    private static void heirsAtLastToday() {
+        for (int coin = 9; coin <= 10; coin++) {
+            for (int from = 4; from <= 6; from++) {
+                TreatyClaims x = awarded("", 10, 0);
+                x.pass(5);
+                x.dead(0, from);
+                x.heir(0, 1, 1);
+                x.fund(coin);
+                checks.due("last()", x.last(), coin);
+                checks.due("DEAD from " + from + " on: the purse", x.purse(0), from > 5 ? coin : 0);
+                checks.due("DEAD from " + from + " on: the heir's", x.purse(1), from > 5 ? 0 : coin);
+            }
+        }
+    }
+
+    /** "each HEIR's part again so, if they are DEAD (today)": from today on, and from tomorrow on. */
+    private static void heirsOfHeirsToday() {
+        for (int from = 4; from <= 6; from++) {
+            TreatyClaims x = awarded("", 10, 0, 0);
+            x.pass(5);
+            x.dead(0, 0);
+            x.heir(0, 1, 1);
+            x.dead(1, from);
+            x.heir(1, 2, 1);
+            x.fund(10);
+            checks.due("wave()", x.wave(), 10);
+            checks.due("an heir DEAD from " + from + " on: the purse", x.purse(1), from > 5 ? 10 : 0);
+            checks.due("an heir DEAD from " + from + " on: the heir's", x.purse(2), from > 5 ? 0 : 10);
         }
     }
 

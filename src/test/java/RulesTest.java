@@ -181,6 +181,8 @@ public final class RulesTest {
             checks.due("kind of " + words[i], Checks.kind(x, 0, words[i]), i);
         }
         for (char one = 'a'; one <= 'z'; one++) {
+            x = new TreatyClaims();
+            Checks.rules(x, 0, text.toString());
             for (char other = 'a'; other <= 'z'; other++) {
                 String word = "" + one + other;
                 int kind = java.util.Arrays.asList(words).indexOf(word);

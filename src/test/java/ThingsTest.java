@@ -195,7 +195,8 @@ public final class ThingsTest {
         y.thing(0, 0, 5);
         Checks.claim(y, 0, 0, 0, 1, "ship");
         for (int i = 0; i < 150; i++) {
-            checks.due("paper " + i, Checks.paper(y, 0, NONE, 0, "deed"), i);
+            Checks.put(y, "deed");
+            checks.due("paper " + i, y.paper(0, NONE, 0), i);
         }
         checks.due("paper 150", Checks.paper(y, 0, NONE, 0, "deed"), FULL);
         checks.due("NONE ahead of FULL", Checks.paper(y, 0, NONE, 0, ""), NONE);
