@@ -565,6 +565,10 @@ public final class ClaimsEdgeTest {
         checks.due("what must be, and the points", withPapers(both, "").lacks(0, 0, 0), 3);
         checks.due("besides c: b alone", withPapers(both, "c").lacks(0, 0, 0), 2);
         checks.due("besides a: b", withPapers(both, "a").lacks(0, 0, 0), 2);
+        String one = "must boat a;weigh b 10;weigh c 10;either ship a c;need ship 10;";
+        checks.due("c for POINTS and either, not a and b, which are a lesser set", withPapers(one, "").lacks(0, 0, 0), 4);
+        String two = "must ship a;either ship b c;either ship d e;weigh f 9;weigh b 1;weigh d 1;need ship 2;";
+        checks.due("one of each, not the heaviest", withPapers(two, "").lacks(0, 0, 0), 1 + 2 + 8);
     }
 
     /** "of as many the least set (bits by KIND)". */

@@ -31,6 +31,8 @@ public final class DecisionsEdgeTest {
         capLets();
         capBesideAllAwards();
         keptAsItIsDecided();
+        decidedByTheVersionInForce();
+        likeByTheVersionInForce();
         likeAtMostTestMarks();
         likeOfOneW();
         testsOfAtMost();
@@ -397,6 +399,45 @@ public final class DecisionsEdgeTest {
         checks.due("but unlike to what was kept", x.again(0), 1);
     }
 
+    /** Votes, a LOT and SPREAD are by the VERSION IN FORCE as it comes to them, not as it was FILED or voted on. */
+    private static void decidedByTheVersionInForce() {
+        for (int v = 0; v < 4; v++) {
+            TreatyClaims x = splitOne(40, 50);
+            Checks.claim(x, 0, 0, 0, 25, "ship");
+            Checks.claim(x, 0, 0, 0, 25, "ship");
+            for (int w = 0; w < 4; w++) {
+                Checks.rules(x, w, "need ship 0;late " + 100 * w + ";rate " + 18 * w + " loss;");
+            }
+            x.pass(200);
+            x.force(v);
+            x.lot(0, 0, 50);
+            x.vote(1, 20, 20);
+            x.spread(0);
+            checks.due("AWARD by LOT, VERSION " + v, x.about(0, 9), 50 + 5 * v);
+            checks.due("AWARD by VOTES, VERSION " + v, x.about(1, 9), 20 + 2 * v);
+            checks.due("AWARD by SPREAD, VERSION " + v, x.about(2, 9), 25 + 25 * v / 10);
+            x.pass(150);
+            checks.due("at most late days ago, VERSION " + v, x.again(0), v < 2 ? STATE : 0);
+        }
+    }
+
+    /** LIKE CASES, TESTS and SPREAD: "(by the VERSION IN FORCE)". */
+    private static void likeByTheVersionInForce() {
+        for (int v = 0; v < 4; v++) {
+            TreatyClaims x = marked(0, 0, 1, 3, 7, 15);
+            for (int w = 1; w < 4; w++) {
+                Checks.rules(x, w, "need ship 0;test " + w + ";");
+            }
+            x.force(v);
+            for (int c = 1; c < 5; c++) {
+                checks.due("like(0, " + c + ") by VERSION " + v, x.like(0, c), c <= v ? 1 : 0);
+            }
+            checks.due("tests(1) by VERSION " + v, x.tests(1), Math.min(2 * v + 1, 5));
+            x.vote(0, 1, 1);
+            checks.due("spread by VERSION " + v, x.spread(0), v);
+        }
+    }
+
     private static TreatyClaims marked(int test, int... marks) {
         TreatyClaims x = Checks.withPersons(1);
         x.thing(0, 0, 100);
@@ -569,6 +610,9 @@ public final class DecisionsEdgeTest {
         checks.due("spread of an OPEN one", x.spread(4), STATE);
         x.vote(4, 1, 2);
         checks.due("spread of a SPLIT one", x.spread(4), STATE);
+        x.mark(4, 0);
+        checks.due("a like one that is SPLIT", x.spread(2), 0);
+        checks.due("stays so", x.about(4, 7), SPLIT);
         for (int c : new int[] {Integer.MIN_VALUE, -1, 5, Integer.MAX_VALUE}) {
             checks.due("spread(" + c + ")", x.spread(c), RANGE);
         }

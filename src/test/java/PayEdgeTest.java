@@ -11,6 +11,7 @@ public final class PayEdgeTest {
         waveByFund();
         waveBesideOpenAndSplitOnes();
         waveOfEachIsCut();
+        waveOfGreatOnes();
         wavePaysTheRest();
         waveAsFarAsThereIsCoin();
         waveOfNothing();
@@ -128,6 +129,25 @@ public final class PayEdgeTest {
         TreatyClaims y = awarded("part 99;", 999999);
         y.fund(9999999);
         checks.due("990 thousandths of a great one", y.wave(), 989999);
+    }
+
+    /** Products far beyond an int: of FUND, and of an AWARD with all INTEREST that there can be. */
+    private static void waveOfGreatOnes() {
+        TreatyClaims x = awarded("", 1000);
+        for (int c = 1; c <= 20; c++) {
+            Checks.claim(x, 0, 0, 0, 999999, "ship");
+        }
+        x.fund(9999999);
+        checks.due("9999999 over 20000980: 499 thousandths", x.wave(), 499);
+        TreatyClaims y = Checks.withPersons(1);
+        Checks.rules(y, 0, "need ship 0;rate 99 loss;part 99;");
+        y.thing(0, 0, 999999);
+        Checks.claim(y, 0, 0, 0, 999999, "ship");
+        Checks.passTo(y, 1999);
+        y.vote(0, 999999, 999999);
+        y.fund(9999999);
+        checks.due("990 thousandths of 6497243", y.wave(), 6432270);
+        checks.due("and the rest", y.last(), 64973);
     }
 
     /** "each that was paid less than that is paid the rest"; who was paid more has nothing taken. */

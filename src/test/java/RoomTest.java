@@ -228,6 +228,13 @@ public final class RoomTest {
         for (int c = 0; c < 60; c++) {
             checks.due("DUE of " + c, x.due(c), c < 39 ? 16667 : 16666);
         }
+        for (int c = 0; c < 60; c += 2) {
+            x.withdraw(c);
+        }
+        for (int c = 0; c < 60; c++) {
+            int due = c % 2 == 0 ? 0 : c < 18 ? 33334 : 33333;
+            checks.due("DUE of " + c + " as each other one is WITHDRAWN", x.due(c), due);
+        }
     }
 
     private static void sixtyLikeCases() {
