@@ -8,6 +8,7 @@ import com.sun.source.tree.ImportTree;
 import com.sun.source.tree.LambdaExpressionTree;
 import com.sun.source.tree.LineMap;
 import com.sun.source.tree.MemberReferenceTree;
+import com.sun.source.tree.MemberSelectTree;
 import com.sun.source.tree.MethodInvocationTree;
 import com.sun.source.tree.MethodTree;
 import com.sun.source.tree.NewClassTree;
@@ -175,6 +176,17 @@ public final class LanguageTest {
         public Void visitMethodInvocation(MethodInvocationTree tree, Void none) {
             called(trees.getElement(new TreePath(getCurrentPath(), tree.getMethodSelect())), tree);
             return super.visitMethodInvocation(tree, none);
+        }
+
+        @Override
+        public Void visitMemberSelect(MemberSelectTree tree, Void none) {
+            Element element = trees.getElement(getCurrentPath());
+            boolean isRowLength = tree.getIdentifier().contentEquals("length");
+            if (element != null && element.getKind().isField() && !isRowLength) {
+                String owner = element.getEnclosingElement().toString();
+                checks.holds("rule 4: " + tree + " in line " + line(tree), owner.startsWith("TreatyClaims"));
+            }
+            return super.visitMemberSelect(tree, none);
         }
 
         @Override
