@@ -1,3 +1,5 @@
+import java.util.Random;
+
 /** The edges of Terms III: THINGS and LIKES, CLAIMS, PAPERS, WHAT FAILS, LACKS, WEAKEST. A method a sentence. */
 public final class ClaimsEdgeTest {
     private static final Checks checks = new Checks();
@@ -39,6 +41,7 @@ public final class ClaimsEdgeTest {
         lacksFewest();
         lacksLeast();
         lacksAllOrNone();
+        lacksBesideAllSets();
         weakestIsTheLeast();
         weakestIsNone();
         weakestAsKnown();
@@ -569,6 +572,8 @@ public final class ClaimsEdgeTest {
         checks.due("c for POINTS and either, not a and b, which are a lesser set", withPapers(one, "").lacks(0, 0, 0), 4);
         String two = "must ship a;either ship b c;either ship d e;weigh f 9;weigh b 1;weigh d 1;need ship 2;";
         checks.due("one of each, not the heaviest", withPapers(two, "").lacks(0, 0, 0), 1 + 2 + 8);
+        String three = "must boat a;weigh b 5;weigh c 5;weigh d 5;either ship a d;need ship 10;";
+        checks.due("b and d, not c and d", withPapers(three, "").lacks(0, 0, 0), 2 + 8);
     }
 
     /** "of as many the least set (bits by KIND)". */
@@ -602,6 +607,50 @@ public final class ClaimsEdgeTest {
         checks.due("fifteen", withPapers(text + "need ship 150;", "").lacks(0, 0, 0), 32767);
         checks.due("the last alone", withPapers(text + "need ship 0;must ship p;", "").lacks(0, 0, 0), 32768);
         checks.due("all but the last, which is had", withPapers(text + "need ship 160;", "p").lacks(0, 0, 0), 32767);
+    }
+
+    /** LACKS of many texts of six KINDS, beside all sets that there are, tried one by one. */
+    private static void lacksBesideAllSets() {
+        Random random = new Random(9);
+        for (int round = 0; round < 600; round++) {
+            int[] weights = new int[6];
+            StringBuilder text = new StringBuilder();
+            for (int k = 0; k < 6; k++) {
+                weights[k] = random.nextInt(3) == 0 ? 0 : 1 + random.nextInt(5);
+                text.append(weights[k] == 0 ? "must boat " : "weigh ").append((char) ('a' + k));
+                text.append(weights[k] == 0 ? ";" : " " + weights[k] + ";");
+            }
+            int need = random.nextInt(14);
+            text.append("need ship ").append(need).append(';');
+            int[] demands = new int[random.nextInt(5)];
+            for (int i = 0; i < demands.length; i++) {
+                int one = random.nextInt(6);
+                int other = random.nextInt(6);
+                demands[i] = 1 << one | 1 << other;
+                text.append("either ship ").append((char) ('a' + one)).append(' ').append((char) ('a' + other)).append(';');
+            }
+            int had = random.nextInt(2) == 0 ? 0 : 1 << random.nextInt(6);
+            String papers = had == 0 ? "" : Character.toString('a' + Integer.numberOfTrailingZeros(had));
+            int want = leastOfAllSets(weights, need, demands, had);
+            checks.due("lacks by " + text + " with " + papers, withPapers(text.toString(), papers).lacks(0, 0, 0), want);
+        }
+    }
+
+    private static int leastOfAllSets(int[] weights, int need, int[] demands, int had) {
+        int least = NONE;
+        for (int set = 0; set < 64; set++) {
+            int points = 0;
+            boolean does = (set & had) == 0;
+            for (int k = 0; k < 6; k++) {
+                points += ((set | had) >> k & 1) * weights[k];
+            }
+            for (int demand : demands) {
+                does = does && (demand & (set | had)) != 0;
+            }
+            boolean fewer = least == NONE || Integer.bitCount(set) < Integer.bitCount(least);
+            least = does && points >= need && fewer ? set : least;
+        }
+        return least;
     }
 
     /** "WEAKEST: the least KIND without whose PAPERS a PROVEN one would fail". */

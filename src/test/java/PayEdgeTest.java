@@ -324,6 +324,20 @@ public final class PayEdgeTest {
         checks.due("one more than was paid", x.wave(), 1);
         paid("one more", x, 101, 100);
         checks.due("the purse", x.purse(0), 101);
+        TreatyClaims y = awarded("late 5;", 50, 0, 0);
+        y.fund(50);
+        checks.due("all of the first", y.last(), 50);
+        for (int c = 0; c < 3; c++) {
+            y.nation(c, 1, 0);
+            checks.due("again", y.again(c), 1);
+            y.nation(c, 0, 0);
+        }
+        y.vote(0, 0, 0);
+        y.vote(1, 9, 9);
+        y.vote(2, 1, 1);
+        y.fund(9);
+        checks.due("one less than the others want", y.last(), 9);
+        paid("what the first has too much is wanted by none", y, 50, 8, 1);
     }
 
     /** "if DEAD (today, ..)": from today on, and from tomorrow on. */

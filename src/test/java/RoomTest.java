@@ -91,6 +91,17 @@ public final class RoomTest {
         checks.due("NATION", x.nationOn(2, 7, 0), last == 0 ? 3 : 0);
         checks.due("DEAD", x.deadOn(2, 7, 0), last == 1 ? 1 : 0);
         checks.due("HEIR", x.heirOn(2, 0, 0, 0), last == 2 ? 1 : NONE);
+        Checks.rules(x, 0, "need ship 0;chain always;");
+        x.thing(0, 0, 9);
+        for (int p = 0; p < 3; p++) {
+            Checks.claim(x, p, 0, 0, 3, "ship");
+            checks.due("always of NATION 0, as those tell of " + p, x.fails(p, 0, 0), 0);
+            x.umpire(p, true);
+        }
+        x.sides(2, 3);
+        checks.due("for a LOT today, as those tell", x.lots(), 3);
+        x.pass(7);
+        checks.due("for a LOT as the 200th begins", x.lots(), last == 2 ? 2 : 1);
         checks.due("RANGE ahead of FULL: nation", x.nation(3, 0, 0), RANGE);
         checks.due("RANGE ahead of FULL: dead", x.dead(0, 2000), RANGE);
         checks.due("RANGE ahead of FULL: heir", x.heir(0, 0, 1), RANGE);

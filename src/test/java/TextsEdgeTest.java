@@ -36,6 +36,7 @@ public final class TextsEdgeTest {
         rolesTwice();
         mustAndEitherAgain();
         leastKindOfOneToken();
+        endIsNoWord();
         firstComeTo();
         faultOfTheLatest();
         faultKeepsTheVersion();
@@ -467,6 +468,21 @@ public final class TextsEdgeTest {
         checks.fault(sixteen + "must a 5", SYNTAX_FAULT, 167);
         checks.fault("bar 20000;", SYNTAX_FAULT, 4);
         checks.fault("days 9 00001;", SYNTAX_FAULT, 7);
+    }
+
+    /** Where the text ends instead of a W that was told, or has no room, there is SYNTAX alone. */
+    private static void endIsNoWord() {
+        checks.fault("weigh weigh 5;weigh", SYNTAX_FAULT, 19);
+        checks.fault("need need 5;need", SYNTAX_FAULT, 16);
+        checks.fault("weigh a 5;weigh", SYNTAX_FAULT, 15);
+        checks.fault("order owner;weigh a 5;bar", SYNTAX_FAULT, 25);
+        String sixteen = times(16, "weigh # 1;");
+        checks.fault(sixteen + "weigh", SYNTAX_FAULT, 165);
+        checks.fault(sixteen + "must ", SYNTAX_FAULT, 165);
+        checks.fault(sixteen + "must z", SYNTAX_FAULT, 166);
+        checks.fault(sixteen + "either z a", SYNTAX_FAULT, 170);
+        checks.fault(sixteen + "weigh;", SYNTAX_FAULT, 165);
+        checks.fault(sixteen + "weigh 5;", SYNTAX_FAULT, 166);
     }
 
     /** "the first come to as TOKENS are read one by one". */
