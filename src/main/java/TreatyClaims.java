@@ -845,7 +845,7 @@ public final class TreatyClaims {
         /** The fewest KINDS that would have to be had besides; of as many the least set; NONE if no set would do. */
         int lackingKinds(long word, int had) {
             for (int size = 0; size <= kinds; size++) {
-                int set = leastBesides(word, had, kinds, size);
+                int set = leastBesides(this, word, had, kinds, size);
                 if (set != NONE) {
                     return set;
                 }
@@ -857,19 +857,19 @@ public final class TreatyClaims {
          * The least set of at most so many KINDS below one that would do. A set without the highest KIND is less
          * than any with it, so that is tried first.
          */
-        private int leastBesides(long word, int had, int below, int size) {
-            if (isShown(word, had)) {
+        private static int leastBesides(Rules rules, long word, int had, int below, int size) {
+            if (rules.isShown(word, had)) {
                 return 0;
             }
-            if (size <= 0 || below <= 0 || isHopeless(word, had, below, size)) {
+            if (size <= 0 || below <= 0 || rules.isHopeless(word, had, below, size)) {
                 return NONE;
             }
-            int without = leastBesides(word, had, below - 1, size);
+            int without = leastBesides(rules, word, had, below - 1, size);
             int highest = 1 << (below - 1);
             if (without != NONE || (had & highest) != 0) {
                 return without;
             }
-            int with = leastBesides(word, had | highest, below - 1, size - 1);
+            int with = leastBesides(rules, word, had | highest, below - 1, size - 1);
             return with == NONE ? NONE : with | highest;
         }
 
@@ -1307,31 +1307,32 @@ public final class TreatyClaims {
 
         /** What is paid to one comes to their purse, or, if they are dead, to their heirs. */
         void receive(int p, int sum, int today) {
-            hand(p, sum, today, 0);
+            hand(this, p, sum, today, 0);
         }
 
-        private void hand(int p, int sum, int today, int passings) {
-            if (passings >= PASSINGS || !isDead(p, today, today)) {
-                keep(p, sum);
+        private static void hand(People people, int p, int sum, int today, int passings) {
+            if (passings < 0 || passings >= PASSINGS || !people.isDead(p, today, today)) {
+                people.keep(p, sum);
                 return;
             }
-            int found = listHeirs(p, today, passings);
+            int found = people.listHeirs(p, today, passings);
+            int[] parts = people.parts[passings];
             int whole = 0;
             for (int i = 0; i < found; i++) {
-                whole += parts[passings][i];
+                whole += parts[i];
             }
             if (whole <= 0) {
-                keep(p, sum);
+                people.keep(p, sum);
                 return;
             }
             int left = sum;
             for (int i = 0; i < found; i++) {
-                left -= (int) ((long) sum * parts[passings][i] / whole);
+                left -= (int) ((long) sum * parts[i] / whole);
             }
             for (int i = 0; i < found; i++) {
-                int share = (int) ((long) sum * parts[passings][i] / whole) + (i < left ? 1 : 0);
+                int share = (int) ((long) sum * parts[i] / whole) + (i < left ? 1 : 0);
                 if (share > 0) {
-                    hand(heirs[passings][i], share, today, passings + 1);
+                    hand(people, people.heirs[passings][i], share, today, passings + 1);
                 }
             }
         }

@@ -166,6 +166,10 @@ public final class LanguageTest {
                 if (within() != null) {
                     calls.computeIfAbsent(within(), key -> new LinkedHashSet<>()).add(method);
                 }
+                if (method.equals(within())) {
+                    checks.holds("rule 8: " + method + ", which calls itself, is private and static",
+                        method.getModifiers().containsAll(Set.of(Modifier.PRIVATE, Modifier.STATIC)));
+                }
             } else {
                 String simple = method.getEnclosingElement().getSimpleName() + "." + method.getSimpleName();
                 checks.holds("rule 4: " + simple + " in line " + line(tree), LIBRARY.contains(simple));
